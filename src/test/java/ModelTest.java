@@ -101,7 +101,7 @@ public final class ModelTest {
         int off = random.nextInt(40);
         if (off == 0) return least - 1;
         if (off == 1) return most + 1;
-        if (off == 2 && random.nextInt(4) == 0) return random.nextInt();
+        if (off == 2) return new int[] {Integer.MIN_VALUE, Integer.MAX_VALUE, random.nextInt(), -1}[random.nextInt(4)];
         return least + random.nextInt(most - least + 1);
     }
 
