@@ -327,6 +327,17 @@ public final class HeavyTest {
         x.hits(0);
         // It is down: picked up on hill 0, player 0 drops it again; then as above.
         due("down: centuries(0, 2)", x.centuries(0, 2), 1);
+        // By seed 1 players 3, 4, 5, 1, 6 are called; none of these is there but 1, on hill 0.
+        x = Due.of("valley 10;player 1 0 1;player 2 0 9;player 1 0 1;hit 0;");
+        // It is down: picked up on hill 0 in the first hour, it is up there until he is called.
+        due("picked up once: centuries(1, 3)", x.centuries(1, 3), 0);
+        due("picked up once: centuries(1, 4)", x.centuries(1, 4), 1);
+        // By seed 0 players 6, 6, 4, 5, 1 behind the first: picked up on hill 1 in hour 1, it stays there.
+        due("picked up once: centuries(0, 12)", x.centuries(0, 12), 0);
+        // The wind of the hour in which he is called helps.
+        x = Due.of("valley 20;wind 0 0 0 0 0 8;player 1 1 1;player 2 0 9;");
+        due("by hours: centuries(0, 5)", x.centuries(0, 5), 0);
+        due("by hours: centuries(0, 6)", x.centuries(0, 6), 1);
         due("centuries of nobody", new TruthOver().centuries(5, 60), 0);
     }
 }

@@ -33,25 +33,67 @@ public final class ModelTest {
     }
 
     private void play() {
-        int calls = 0;
-        if (run % 3 == 0) {
-            call("valley", 5 + random.nextInt(15));
-            for (int h = 0; h < 6; h++) call("wind", h, random.nextInt(9) - 4);
-            int players = random.nextInt(8);
-            for (int i = 0; i < players; i++) call("player", random.nextInt(6), random.nextInt(2), 1 + random.nextInt(9));
+        if (run % 2 == 0) {
+            settle();
+            survey();
         }
+        int calls = 0;
         while (calls < 250) {
             if (random.nextInt(12) == 0) {
-                tell(run % 2 == 0 || random.nextInt(3) > 0 ? valleyText() : brokenText());
+                tell(random.nextInt(3) == 0 ? valleyText() : brokenText());
                 call("read");
                 calls += 60;
             } else {
                 String name = CALLS[random.nextInt(CALLS.length)];
+                // What is full or as much as may be undone is come to only by the same call again.
+                int times = random.nextInt(10) == 0 ? 10 : 1;
                 // A valley begun anew too often never grows old.
-                if (!name.equals("valley") || random.nextInt(8) == 0) call(name, arguments(name));
+                if (name.equals("valley") && random.nextInt(8) > 0) times = 0;
+                for (int i = 0; i < times; i++) call(name, arguments(name));
                 calls++;
             }
         }
+        if (run % 5 == 0) survey();
+    }
+
+    /** A valley in which most strokes come over, some hours on. */
+    private void settle() {
+        call("valley", 6 + random.nextInt(10));
+        for (int h = 0; h < 6; h++) call("wind", h, random.nextInt(9) - 4);
+        call("cock", random.nextInt(6), 1 + random.nextInt(4));
+        int players = 1 + random.nextInt(7);
+        for (int i = 0; i < players; i++) call("player", random.nextInt(6), random.nextInt(2), 1 + random.nextInt(9));
+        call("hours", 1 + random.nextInt(24));
+        if (run % 40 == 0) {
+            for (int i = 0; i < 101; i++) call("hours", 99);
+        }
+        for (int i = 0; i < 8; i++) {
+            call("hits", random.nextInt(players));
+            if (random.nextInt(4) > 0) call("picks", random.nextInt(2));
+        }
+    }
+
+    /** All questions, whomever they are about. */
+    private void survey() {
+        for (String name : new String[] {"may", "lasts", "is", "look"}) call(name);
+        call("place", -1);
+        int players = model.world.players.size();
+        for (int p = 0; p < players; p++) {
+            call("place", p);
+            for (String name : new String[] {"tell", "kinds", "ask"}) call(name, p);
+            for (int m = 0; m < 48; m += 1 + random.nextInt(8)) call("reach", p, m);
+            for (int other = 0; other < players; other++) call("yours", p, other);
+            call("gusts", p, random.nextInt(11));
+        }
+        for (int i = 0; i < 12; i++) {
+            int told = random.nextInt(1 << players);
+            long hours = model.call("rally", told, -2);
+            for (int k = -2; k <= hours; k++) {
+                if (k != -1) call("rally", told, k);
+            }
+        }
+        for (int i = 0; i < 6; i++) call("centuries", random.nextInt(1000000), random.nextInt(61));
+        for (int i = 0; i < 7; i++) call("now", i);
     }
 
     private void tell(String text) {

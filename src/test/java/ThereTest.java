@@ -6,6 +6,7 @@ public final class ThereTest {
         part();
         images();
         imagesKeepAll();
+        imagesKeepWhatMayBeUndone();
         status();
         count();
         digest();
@@ -91,6 +92,25 @@ public final class ThereTest {
         due("STATUS is not kept", x.status(0), 1);
         due("undo()", x.undo(), 0);
         due("hill", x.now(2), 0);
+    }
+
+    private static void imagesKeepWhatMayBeUndone() {
+        TruthOver x = new TruthOver();
+        x.hours(10);
+        x.cock(1, 2);
+        x.cock(2, 3);
+        x.image(0);
+        x.valley(5);
+        for (int i = 0; i < 8; i++) x.hours(99);
+        x.from(0);
+        due("count(7)", x.count(7), 3);
+        due("undo()", x.undo(), 10);
+        due("kind", x.now(0), 1);
+        due("undo()", x.undo(), 10);
+        due("kind", x.now(0), 0);
+        due("undo()", x.undo(), 0);
+        due("undo(), none is left", x.undo(), -3);
+        due("WIDE", x.count(3), 10);
     }
 
     private static void status() {

@@ -242,6 +242,33 @@ public final class ValleyTest {
         reads("valley 9;hours 100;", -25);
         reads("valley 9;hours 9", -26);
         reads("valley 9;hours 9a;", -26);
+        wordsThatAreNone();
+        endsTooEarly();
+    }
+
+    private static void wordsThatAreNone() {
+        reads("balley 9;", -10);
+        reads("avalley 9;", -10);
+        reads("valleyz 9;", -10);
+        for (String word : new String[] {"hitz", "zhit", "hix", "bit", "wine", "lock", "prayer", "sick", "tours", "a"}) {
+            reads("valley 9;" + word + " 0;", -19);
+        }
+    }
+
+    /** All of it but the ; at the end of each item: the fault is the length. */
+    private static void endsTooEarly() {
+        String whole = "valley 9;wind 1 2 3;cock 1 2;player 0 0 1;hit 0;pick 1;hours 30;";
+        reads(whole, 7);
+        String before = "";
+        for (String item : whole.split(";")) {
+            String part = before;
+            for (String word : item.split(" ")) {
+                part += word + " ";
+                reads(part, -10 - part.length());
+                reads(part.trim(), -10 - part.trim().length());
+            }
+            before += item + ";";
+        }
     }
 
     private static void readKeepsAndReplaces() {
