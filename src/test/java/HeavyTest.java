@@ -242,6 +242,11 @@ public final class HeavyTest {
         x.mark(0, 4, 22, 10);
         due("kinds(0), plain or vicar", x.kinds(0), 17);
         due("ask(0), plain or vicar", x.ask(0), 0);
+        // A look that ended with a feather flying 1, as hard as a vicar hits: the next question is apart from it.
+        x.cock(0, 3);
+        x.note(1, 2, 0, 3);
+        due("look(), a hen", x.look(), 0);
+        due("ask(0) behind a look", x.ask(0), 0);
         x.forget(2);
         x.mark(0, 4, 14, 1);
         due("kinds(0), vicar", x.kinds(0), 16);
