@@ -195,6 +195,7 @@ final class FarEdges {
         e.answered("all seven", () -> Due.of("valley 10;" + "player 0 0 5;".repeat(7)), TruthOver::may, 127);
         e.answered("nobody of seven", () -> Due.of("valley 10;" + "player 0 0 4;".repeat(7)), TruthOver::may, 0);
         e.answered("nobody there", TruthOver::new, TruthOver::may, 0);
+        e.answered("nobody there, as near as may be", () -> Due.of("valley 1;cock 5 1;"), TruthOver::may, 0);
         // The wind of this hour, not of the next.
         e.answered("hour 0", () -> Due.of("valley 10;wind 5 0;player 0 0 4;"), TruthOver::may, 1);
         e.answered("hour 1", () -> Due.of("valley 10;wind 5 0;player 0 0 4;hours 1;"), TruthOver::may, 0);
@@ -275,6 +276,13 @@ final class FarEdges {
         row(x, 6, -1, 1, 2);
         // He can in hour 3 alone.
         row(Due.of("valley 12;wind 4 4 4 6 4 4;player 0 0 5;"), 1, -1, -1, -1, 0);
+        // It is on hill 1 first.
+        x = Due.of("valley 10;player 0 0 5;player 0 0 5;player 0 1 5;player 0 1 5;hit 0;");
+        row(x, 4, 2);
+        row(x, 8, 3);
+        row(x, 2, 2, 1);
+        row(x, 15, 2, 0, 3, 1);
+        row(Due.of("valley 12;wind 4 4 4 2 4 4;player 0 1 5;player 2 0 9;hit 1;"), 1, -1, -1, 0);
         // All carry it over in each hour, but the told ones are soonest: no hour is let go by.
         row(Due.of("valley 10;player 0 0 5;player 0 1 5;"), 3, 0, 1);
     }
@@ -288,6 +296,12 @@ final class FarEdges {
         }
         e.answered("down, nobody is told: rally(0, -2)", Edges::down, x -> x.rally(0, -2), 0);
         e.answered("nobody there, nobody told: rally(0, -2)", TruthOver::new, x -> x.rally(0, -2), 0);
+        // Asked again, when it can no longer be: the first answer is none of the second's.
+        TruthOver again = Due.of("valley 10;player 0 0 5;player 0 1 5;");
+        row(again, 3, 0, 1);
+        again.cock(0, 2);
+        e.due("too heavy: rally(1, -2)", again.rally(1, -2), -6);
+        e.due("too heavy: rally(3, -2)", again.rally(3, -2), -6);
         e.answered("he falls short by one", () -> Due.of("valley 11;player 0 0 5;"), x -> x.rally(1, -2), -6);
         e.answered("he carries it over", () -> Due.of("valley 10;player 0 0 5;"), x -> x.rally(1, -2), 1);
     }
@@ -296,6 +310,7 @@ final class FarEdges {
 
     private void howLong() {
         e.answered("nobody", TruthOver::new, TruthOver::lasts, 0);
+        e.answered("nobody, as near as may be", () -> Due.of("valley 1;cock 5 1;"), TruthOver::lasts, 0);
         e.answered("short by one", () -> Due.of("valley 11;player 0 0 5;player 0 1 5;"), TruthOver::lasts, 0);
         e.answered("just over", () -> Due.of("valley 10;player 0 0 5;player 0 1 5;"), TruthOver::lasts, 60);
         e.answered("one alone", () -> Due.of("valley 10;player 0 0 5;"), TruthOver::lasts, 1);
@@ -323,6 +338,8 @@ final class FarEdges {
 
     private void longest() {
         e.answered("nobody", TruthOver::new, x -> x.place(-1), 0);
+        e.answered("nobody, as near as may be", () -> Due.of("valley 1;cock 5 1;"), x -> x.place(-1), 0);
+        placed("valley 1;cock 5 1;player 2 1 9;", 1, 0);
         placed("valley 10;player 0 1 5;", 1);
         placed("valley 11;player 0 1 5;", 0);
         placed("valley 10;player 0 1 5;player 0 1 5;", 60);

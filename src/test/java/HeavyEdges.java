@@ -387,6 +387,12 @@ final class HeavyEdges {
         asks("plain or vicar", 0, new int[] {0, 4, 1, 10});
         asks("child or old", 0, new int[] {0, 4, 6, 5});
         asks("of another player", 0, new int[] {1, 4, 17, 15});
+        // A look that ended with a feather flying 1, as hard as a vicar hits: the next question is apart from it.
+        TruthOver looked = marked(4, new int[] {0, 4, 1, 10}).get();
+        looked.cock(0, 3);
+        looked.note(1, 2, 0, 3);
+        looked.look();
+        e.due("behind a look: ask(0)", looked.ask(0), 0);
         e.answered("of player 1", marked(4, new int[] {1, 1, 0, 12}), x -> x.ask(1), 18);
     }
 
@@ -624,6 +630,12 @@ final class HeavyEdges {
                 e.answered("down: centuries(" + seed + ", " + n + ")", () -> Due.of(text + "hit 0;"),
                     x -> x.centuries(seed, n), down);
             }
+        }
+        // X by 1048576 is just cut, or all but cut, to another number: picked up where who is called stands, or not.
+        String allButOnce = "valley 12;" + "player 2 0 9;".repeat(4) + "player 2 1 9;".repeat(3) + "cock 0 9;hit 0;cock 0 1;";
+        int[][] seeds = {{959, 1}, {1403, 0}, {241, 0}, {822, 1}};
+        for (int[] s : seeds) {
+            e.answered("just cut: centuries(" + s[0] + ", 1)", () -> Due.of(allButOnce), x -> x.centuries(s[0], 1), s[1]);
         }
     }
 }

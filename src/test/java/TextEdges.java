@@ -192,6 +192,9 @@ final class TextEdges {
             }
             fault("valley ", "nine;");
             fault(HEAD + "hours 1 ", "more;");
+            fault(HEAD + "hours ", "a;");
+            fault(HEAD + "hours ", "z;");
+            fault("valley ", "a;");
         });
         e.terms("valley again,", () -> {
             fault(HEAD, "valley 9;");
