@@ -3,6 +3,9 @@ import java.util.function.Supplier;
 
 /** How far, who may, rallies, how long: the terms of these questions and promises 15 to 19. */
 final class FarEdges {
+    /** Player 0 let it drop on hill 0; 1 there and 2 on hill 1 would carry it over. */
+    private static final String DOWN_AMONG_CARRIERS = "valley 10;player 0 0 4;player 0 0 5;player 0 1 5;hit 0;";
+
     private final Edges e;
 
     FarEdges(Edges e) {
@@ -294,6 +297,16 @@ final class FarEdges {
                 e.answered("down: rally(" + told + ", " + k + ")", Edges::down, x -> x.rally(told, k), -6);
             }
         }
+        // Were it up, players 1 and 2 would carry it over at once: it is none because it is down.
+        for (int players : new int[] {2, 4, 6}) {
+            for (int k : new int[] {-2, 0, 1, 20}) {
+                e.answered("down among carriers: rally(" + players + ", " + k + ")",
+                    () -> Due.of(DOWN_AMONG_CARRIERS), x -> x.rally(players, k), -6);
+            }
+        }
+        e.answered("down among carriers: rally(0, -2)", () -> Due.of(DOWN_AMONG_CARRIERS), x -> x.rally(0, -2), 0);
+        row(Due.of(DOWN_AMONG_CARRIERS + "pick 0;"), 2, 1);
+        row(Due.of(DOWN_AMONG_CARRIERS + "pick 1;"), 4, 2);
         e.answered("down, nobody is told: rally(0, -2)", Edges::down, x -> x.rally(0, -2), 0);
         e.answered("nobody there, nobody told: rally(0, -2)", TruthOver::new, x -> x.rally(0, -2), 0);
         // Asked again, when it can no longer be: the first answer is none of the second's.
@@ -315,6 +328,9 @@ final class FarEdges {
         e.answered("just over", () -> Due.of("valley 10;player 0 0 5;player 0 1 5;"), TruthOver::lasts, 60);
         e.answered("one alone", () -> Due.of("valley 10;player 0 0 5;"), TruthOver::lasts, 1);
         e.answered("one on the other hill", () -> Due.of("valley 10;player 0 1 5;"), TruthOver::lasts, 0);
+        e.answered("down among carriers", () -> Due.of(DOWN_AMONG_CARRIERS), TruthOver::lasts, 0);
+        e.answered("picked up on hill 0", () -> Due.of(DOWN_AMONG_CARRIERS + "pick 0;"), TruthOver::lasts, 60);
+        e.answered("picked up on hill 1", () -> Due.of(DOWN_AMONG_CARRIERS + "pick 1;"), TruthOver::lasts, 60);
         // On hill 1, in even hours of a day, an old one fails below 6, a vicar where 7 divides it: both in 0 alone.
         String night = "valley 7;player 0 0 9;player 3 1 9;player 4 1 9;";
         e.answered("until hour 24", () -> Due.of(night + "hours 1;"), TruthOver::lasts, 23);
@@ -351,6 +367,8 @@ final class FarEdges {
         placed("valley 12;wind 6 6 6 6 6 6;player 0 1 5;player 0 1 9;", 60, 0, 1);
         placed("valley 12;wind 2 2 2 2 2 2;player 0 0 5;player 0 0 9;", 60, 1, 0);
         placed("valley 40;player 0 1 9;player 0 1 9;", 0, 0, 0);
+        placed(DOWN_AMONG_CARRIERS, 0, 0, 0, 0);
+        placed(DOWN_AMONG_CARRIERS + "pick 0;", 60, 0, 0, 1);
         placed("valley 9;player 0 0 1;player 0 0 9;hit 0;", 0, 0, 0);
         placed("valley 7;player 0 0 9;player 3 0 9;player 4 0 9;hours 1;", 60);
     }
